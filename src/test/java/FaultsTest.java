@@ -43,6 +43,7 @@ public final class FaultsTest {
         due("p1=1>2:9r9;p2=2-3:9f9;x3-2-1;", "4/2 ");
         due("p1=2>1:9r9;p2=2-3:9f9;x1-2-3;", "4/2 6/1 ");
         due("p1=1-2:9r9;x1-2-3;", "4/2 ");
+        due("p59=1-2:9r9;p60=2-3:9r9;x1-2-3;", "");
         due("p1=2-3:9r9;x1-2-3;", "4/2 ");
         due("p1=1-2:9r9;p2=2-3:9r9;x2-1-3;x40-39-38;x1-1-1;x5-39-6;", "4/1 4/1 4/39 4/39 ");
     }
@@ -57,6 +58,8 @@ public final class FaultsTest {
 
     private static void ends() {
         due("p1=1>2:9r9;", "6/2 ");
+        due("p60=1>2:9r9;", "6/2 ");
+        due("p1=1>2:9r9;p60=2-1:9r9;", "");
         due("p1=1>2:9f9;p2=3>40:9w9;", "6/2 6/40 ");
         due("p1=1>2:9r9;p2=2>1:9w9;", "");
         due("p1=1>2:9r9;p2=2-3:9f9;", "");
@@ -85,6 +88,7 @@ public final class FaultsTest {
         due("s1@9+0;s2@8+0;", "2/1 2/2 ");
         // Barred turns do not matter, nor do the numbers of the pieces on the way.
         due("p9=1-2:9r9;p8=2-3:9r9;p7=3-4:9r9;p6=4-5:9r9;p5=5-6:9r9;x1-2-3;s1@9+0;s2@5+0;", "");
+        due("p1=1-2:9r9;p60=2-3:9r9;p2=3-4:9r9;s1@1+0;s30@2+0;", "");
         StringBuilder chain = new StringBuilder();
         for (int i = 1; i <= 25; i++) {
             chain.append("p").append(60 - i).append("=").append(i).append(">").append(i + 1).append(":9r9;");

@@ -191,12 +191,20 @@ public final class ReadingTest {
         missing("gs30");
     }
 
-    /** Every beginning of a right row lacks something: it is wrong at its length. */
+    /**
+     * Every beginning of a right row lacks something: it is wrong at its length, also when the former
+     * text had the rest of the row there, and when the tape is full.
+     */
     private static void missing(String row) {
         StreetGraph town = new StreetGraph();
         for (int length = 1; length <= row.length(); length++) {
-            DUE.wrongAt(town, row.substring(0, length), length);
+            String beginning = row.substring(0, length);
+            Due.read(town, row + ";");
+            DUE.wrongAt(town, beginning, length);
+            DUE.wrongAt(town, " ".repeat(400 - length) + beginning, 400);
         }
+        DUE.rightAs(row + ";" + " ".repeat(399 - row.length()), Due.printed(Due.townOf(row + ";")));
+        DUE.rightAs(" ".repeat(399 - row.length()) + row + ";", Due.printed(Due.townOf(row + ";")));
     }
 
     private static void wrongNumbers() {
