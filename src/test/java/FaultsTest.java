@@ -93,7 +93,7 @@ public final class FaultsTest {
         for (int i = 1; i <= 25; i++) {
             chain.append("p").append(60 - i).append("=").append(i).append(">").append(i + 1).append(":9r9;");
         }
-        StreetGraph town = Due.townOf(chain.toString(), "s1@59+0;s2@35+0;");
+        Graph town = Due.townOf(chain.toString(), "s1@59+0;s2@35+0;");
         DUE.same("faults of a chain", Due.faults(town), "6/26 ");
         Due.read(town, "s1@35+0;s2@59+0;");
         DUE.same("faults of a chain backwards", Due.faults(town), "6/26 7/2 ");
@@ -106,7 +106,7 @@ public final class FaultsTest {
 
     /** As many of each kind as a town can hold together. */
     private static void most() {
-        StreetGraph town = new StreetGraph();
+        Graph town = new Graph();
         StringBuilder want = new StringBuilder();
         for (int number = 1; number <= 60; number++) {
             Due.read(town, "p" + number + "=1>" + (2 + number % 39) + ":1w1\"a\"#0;");
@@ -134,25 +134,25 @@ public final class FaultsTest {
     }
 
     private static void faultsOfTheLatestCheck() {
-        StreetGraph town = Due.townOf("h7@1+0;");
-        DUE.unknown("fault(0, 0) before the first check", () -> town.fault(0, 0));
-        DUE.unknown("fault(0, 2) before the first check", () -> town.fault(0, 2));
+        Graph town = Due.townOf("h7@1+0;");
+        DUE.unknown(town, "fault(0, 0) before the first check", () -> town.fault(0, 0));
+        DUE.unknown(town, "fault(0, 2) before the first check", () -> town.fault(0, 2));
         DUE.same("check", town.check(), 1);
         Due.read(town, "gh7;h8@1+0;h9@1+0;");
         DUE.same("the kind that was", town.fault(0, 0), 1);
         DUE.same("the number that was", town.fault(0, 1), 7);
         for (int i : new int[] {1, -1, Integer.MIN_VALUE, Integer.MAX_VALUE}) {
-            DUE.unknown("fault(" + i + ", 0)", () -> town.fault(i, 0));
-            DUE.unknown("fault(" + i + ", 2)", () -> town.fault(i, 2));
+            DUE.unknown(town, "fault(" + i + ", 0)", () -> town.fault(i, 0));
+            DUE.unknown(town, "fault(" + i + ", 2)", () -> town.fault(i, 2));
         }
         for (int what : new int[] {2, -1, Integer.MIN_VALUE, Integer.MAX_VALUE}) {
-            DUE.outside("fault(0, " + what + ")", () -> town.fault(0, what));
+            DUE.outside(town, "fault(0, " + what + ")", () -> town.fault(0, what));
         }
         DUE.same("check again", town.check(), 2);
         DUE.same("its second", town.fault(1, 1), 9);
         Due.read(town, "gh8;gh9;");
         DUE.same("check of a sound town", town.check(), 0);
-        DUE.unknown("no fault is left", () -> town.fault(0, 0));
+        DUE.unknown(town, "no fault is left", () -> town.fault(0, 0));
         Due.read(town, "x1-2-3;");
         town.check();
         town.clear();

@@ -5,6 +5,7 @@ public final class PrintingTest {
     public static void main(String[] args) {
         order();
         everyPart();
+        longestPieces();
         fullTown();
         at();
         DUE.finish();
@@ -13,7 +14,7 @@ public final class PrintingTest {
     private static void order() {
         DUE.rightAs("x9-8-7;s2@1+1;h2@1+1;p2=3-4:5r6;x1-2-3;s1@1+1;x9-8-7;h1@1+1;p1=1>2:3b4;",
                 "p1=1>2:3b4;p2=3-4:5r6;h1@1+1;h2@1+1;s1@1+1;s2@1+1;x9-8-7;x1-2-3;");
-        StreetGraph town = Due.townOf("x3-3-3;x2-2-2;", "x1-1-1;x2-2-2;x3-3-3;");
+        Graph town = Due.townOf("x3-3-3;x2-2-2;", "x1-1-1;x2-2-2;x3-3-3;");
         DUE.same("turns as they came", Due.printed(town), "x3-3-3;x2-2-2;x1-1-1;");
         town.clear();
         Due.read(town, "x2-2-2;x3-3-3;");
@@ -35,33 +36,52 @@ public final class PrintingTest {
         same("h1@1+0;h10@10+10;h30@60+9999;s1@60+100;s30@1+1000;x1-1-1;x40-30-20;");
     }
 
-    private static void fullTown() {
-        StreetGraph town = new StreetGraph();
+    /** 60 of the longest pieces are all that 512 calls can write: ten texts of 51 calls, print, at. */
+    private static void longestPieces() {
+        Graph town = new Graph();
         StringBuilder want = new StringBuilder();
-        for (int number = 1; number <= 60; number++) {
-            String row = "p" + number + "=40-39:9999r99[10-23:99][11-22:98][12-21:97]^99!98\"zzzzzzzz\"#9;";
-            Due.read(town, row);
-            want.append(row);
-        }
-        for (String sign : new String[] {"h", "s"}) {
-            for (int number = 1; number <= 30; number++) {
-                String row = sign + number + "@60+9999;";
-                Due.read(town, row);
-                want.append(row);
+        for (int from = 1; from <= 60; from += 6) {
+            StringBuilder text = new StringBuilder();
+            for (int number = from; number < from + 6; number++) {
+                text.append("p").append(number).append("=40-39:9999r99[10-23:99][11-22:98][12-21:97]^99!98");
+                text.append("\"zzzzzzzz\"#9;");
             }
+            Due.read(town, text.toString());
+            want.append(text);
         }
-        for (int node = 11; node <= 30; node++) {
-            String row = "x" + node + "-40-40;";
-            Due.read(town, row);
-            want.append(row);
-        }
-        DUE.same("print of a full town", Due.printed(town), want.toString());
-        DUE.same("its length", town.print(), want.length());
+        DUE.same("print of the longest pieces", Due.printed(town), want.toString());
         DUE.same("behind it", town.at(want.length()), -1);
     }
 
+    private static void fullTown() {
+        Graph town = new Graph();
+        StringBuilder want = new StringBuilder();
+        for (int number = 1; number <= 60; number++) {
+            String row = "p" + number + "=40-39:9999r99;";
+            Due.read(town, row);
+            want.append(row);
+        }
+        want.append(readSpots(town, "h")).append(readSpots(town, "s"));
+        StringBuilder turns = new StringBuilder();
+        for (int node = 11; node <= 30; node++) {
+            turns.append("x").append(node).append("-40-40;");
+        }
+        Due.read(town, turns.toString());
+        DUE.same("print of a full town", Due.printed(town), want.append(turns).toString());
+        DUE.same("behind it", town.at(want.length()), -1);
+    }
+
+    private static String readSpots(Graph town, String sign) {
+        StringBuilder rows = new StringBuilder();
+        for (int number = 1; number <= 30; number++) {
+            rows.append(sign).append(number).append("@60+9999;");
+        }
+        Due.read(town, rows.toString());
+        return rows.toString();
+    }
+
     private static void at() {
-        StreetGraph town = Due.townOf("h1@2+3;");
+        Graph town = Due.townOf("h1@2+3;");
         DUE.same("at(0) without a print", town.at(0), -1);
         DUE.same("print", town.print(), 7);
         Due.read(town, "h1@4+56;gh2;");
@@ -69,8 +89,8 @@ public final class PrintingTest {
         DUE.same("its last byte", town.at(6), (int) ';');
         DUE.same("behind it", town.at(7), -1);
         DUE.same("far behind it", town.at(Integer.MAX_VALUE), -1);
-        DUE.outside("at(-1)", () -> town.at(-1));
-        DUE.outside("at(lowest)", () -> town.at(Integer.MIN_VALUE));
+        DUE.outside(town, "at(-1)", () -> town.at(-1));
+        DUE.outside(town, "at(lowest)", () -> town.at(Integer.MIN_VALUE));
         DUE.same("print again", town.print(), 8);
         DUE.same("the new one", town.at(3), (int) '4');
         Due.read(town, "gh1;");

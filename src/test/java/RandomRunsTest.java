@@ -9,7 +9,7 @@ public final class RandomRunsTest {
     private static int fullTexts;
 
     public static void main(String[] args) {
-        for (int seed = 0; seed < 400; seed++) {
+        for (int seed = 0; seed < 600; seed++) {
             run(new Random(seed));
         }
         System.out.println(rightTexts + " right texts, " + wrongTexts + " wrong ones, " + fullTexts + " without room");
@@ -18,11 +18,11 @@ public final class RandomRunsTest {
     }
 
     private static void run(Random random) {
-        StreetGraph town = new StreetGraph();
+        Graph town = new Graph();
         PlainTown plain = new PlainTown();
         // Few numbers make rows that meet one another; all numbers make the edges come.
         boolean narrow = random.nextInt(4) != 0;
-        for (int i = 0; i < 12; i++) {
+        for (int i = 0; i < 8; i++) {
             String text = text(random, narrow);
             if (random.nextInt(2) == 0) {
                 text = spoilt(random, text);
@@ -36,7 +36,7 @@ public final class RandomRunsTest {
         }
     }
 
-    private static void readBoth(StreetGraph town, PlainTown plain, String text) {
+    private static void readBoth(Graph town, PlainTown plain, String text) {
         DUE.same("the tape of " + text, Due.write(town, text), text.length());
         String got = "";
         try {
@@ -60,7 +60,7 @@ public final class RandomRunsTest {
         DUE.same("place of " + text, town.place(), place);
     }
 
-    private static void compare(StreetGraph town, PlainTown plain) {
+    private static void compare(Graph town, PlainTown plain) {
         String printed = plain.printed();
         DUE.same("print", Due.printed(town), printed);
         DUE.same("faults of " + printed, Due.faults(town), plain.faults());
@@ -88,7 +88,7 @@ public final class RandomRunsTest {
         }
     }
 
-    private static void comparePiece(StreetGraph town, PlainTown plain, int number) {
+    private static void comparePiece(Graph town, PlainTown plain, int number) {
         for (int what = 0; what <= 7; what++) {
             DUE.same("piece " + number + ", " + what, town.piece(number, what), plain.piecePart(number, what));
         }

@@ -16,50 +16,50 @@ public final class ReadingTest {
     }
 
     private static void newObject() {
-        StreetGraph town = new StreetGraph();
+        Graph town = new Graph();
         for (int what = 0; what <= 4; what++) {
             DUE.same("count(" + what + ") of a new town", town.count(what), 0);
         }
         DUE.same("place of a new town", town.place(), -1);
         DUE.same("at(0) of a new town", town.at(0), -1);
-        DUE.unknown("fault(0, 0) of a new town", () -> town.fault(0, 0));
+        DUE.unknown(town, "fault(0, 0) of a new town", () -> town.fault(0, 0));
         DUE.same("check of a new town", town.check(), 0);
         DUE.same("print of a new town", town.print(), 0);
         DUE.same("clear of a new town", town.clear(), 0);
         DUE.same("read of a new town", town.read(), 0);
-        DUE.unknown("piece(1, 0) of a new town", () -> town.piece(1, 0));
-        DUE.unknown("spot(1) of a new town", () -> town.spot(1, false));
-        DUE.same("the next tape", new StreetGraph().sign('p', 1), 1);
+        DUE.unknown(town, "piece(1, 0) of a new town", () -> town.piece(1, 0));
+        DUE.unknown(town, "spot(1) of a new town", () -> town.spot(1, false));
+        DUE.same("the next tape", new Graph().sign('p', 1), 1);
     }
 
     private static void sign() {
-        StreetGraph town = new StreetGraph();
-        DUE.outside("sign of 0", () -> town.sign('p', 0));
-        DUE.outside("sign of -1", () -> town.sign('p', -1));
-        DUE.outside("sign of 9", () -> town.sign('p', 9));
-        DUE.outside("sign of the lowest int", () -> town.sign('p', Integer.MIN_VALUE));
-        DUE.outside("sign of the highest int", () -> town.sign('p', Integer.MAX_VALUE));
+        Graph town = new Graph();
+        DUE.outside(town, "sign of 0", () -> town.sign('p', 0));
+        DUE.outside(town, "sign of -1", () -> town.sign('p', -1));
+        DUE.outside(town, "sign of 9", () -> town.sign('p', 9));
+        DUE.outside(town, "sign of the lowest int", () -> town.sign('p', Integer.MIN_VALUE));
+        DUE.outside(town, "sign of the highest int", () -> town.sign('p', Integer.MAX_VALUE));
         DUE.same("sign after refusals", town.sign('g', 1), 1);
         DUE.same("two more", town.sign(0x7070_7031L, 2), 3);
         DUE.same("one more", town.sign(0x3b3b_3b3bL, 1), 4);
         DUE.same("read of gp1;", town.read(), 0);
         DUE.same("the tape is used up", town.sign(' ', 1), 1);
 
-        StreetGraph full = new StreetGraph();
+        Graph full = new Graph();
         for (int i = 1; i <= 49; i++) {
             DUE.same("sign " + i, full.sign(0x2020_2020_2020_2020L, 8), 8 * i);
         }
         DUE.same("up to 399", full.sign(0x2020_2020_2020_20L, 7), 399);
-        DUE.noRoom("to 401", () -> full.sign(0x2020, 2));
+        DUE.noRoom(full, "to 401", () -> full.sign(0x2020, 2));
         DUE.same("up to 400", full.sign(' ', 1), 400);
-        DUE.noRoom("one more than 400", () -> full.sign(' ', 1));
-        DUE.outside("the range comes before the room", () -> full.sign(' ', 9));
+        DUE.noRoom(full, "one more than 400", () -> full.sign(' ', 1));
+        DUE.outside(full, "the range comes before the room", () -> full.sign(' ', 9));
         DUE.same("400 blanks are right", full.read(), 0);
         DUE.same("room again", full.sign(' ', 1), 1);
     }
 
     private static void read() {
-        StreetGraph town = new StreetGraph();
+        Graph town = new Graph();
         DUE.same("one piece", Due.read(town, "p7=1-2:9r9;"), 1);
         DUE.same("two pieces", Due.read(town, "p60=1-2:9r9;h1@1+1;"), 2);
         DUE.same("an empty text", town.read(), 2);
@@ -70,7 +70,7 @@ public final class ReadingTest {
     }
 
     private static void rowsInOrder() {
-        StreetGraph town = Due.townOf("p1=1-2:9r9[1-2:3]^4!5\"ab\"#6;p1=3>4:8w7;h2@1+1;h2@3+4;s2@5+6;s2@7+8;");
+        Graph town = Due.townOf("p1=1-2:9r9[1-2:3]^4!5\"ab\"#6;p1=3>4:8w7;h2@1+1;h2@3+4;s2@5+6;s2@7+8;");
         DUE.same("the later ones", Due.printed(town), "p1=3>4:8w7;h2@3+4;s2@7+8;");
         Due.read(town, "gp1;p1=5-6:1f1;gp1;gh2;h2@9+9;gs2;s2@1+0;gs2;");
         DUE.same("gone and come again", Due.printed(town), "h2@9+9;");
@@ -84,51 +84,47 @@ public final class ReadingTest {
         for (int i = 1; i <= 20; i++) {
             twenty.append('x').append(i).append("-2-3;");
         }
-        StreetGraph town = Due.townOf(twenty.toString());
+        Graph town = Due.townOf(twenty.toString());
         DUE.same("twenty turns", town.count(3), 20);
         DUE.same("known ones need no room", Due.read(town, "x20-2-3;x1-2-3;p1=1-2:9r9;"), 1);
         Due.write(town, "gp1;p2=1-2:9r9;h1@1+1;x3-2-1;");
-        DUE.noRoom("the 21st turn", town::read);
-        DUE.same("place after the 21st", town.place(), -1);
+        DUE.readWithoutRoom(town, "the 21st turn");
         DUE.same("nothing is changed", Due.printed(town), "p1=1-2:9r9;" + twenty);
-        DUE.same("the tape is used up", town.sign(' ', 1), 1);
-        town.read();
-        DUE.wrongAt(town, "x3-2-1;x3-2-2;q", 14);
+        Due.write(town, "x3-2-1;x3-2-2;q");
+        DUE.wrongRead(town, "a wrong text with too many turns", 14);
         Due.write(town, "x3-2-1;");
-        DUE.noRoom("the 21st turn again", town::read);
-        DUE.same("place after a wrong text and then no room", town.place(), -1);
+        DUE.readWithoutRoom(town, "the 21st turn behind a wrong text");
         town.clear();
         DUE.same("room after clear", Due.read(town, "x3-2-1;"), 1);
         DUE.same("one turn", town.count(3), 1);
 
-        StreetGraph fresh = new StreetGraph();
+        Graph fresh = new Graph();
         Due.write(fresh, twenty + "x21-2-3;");
-        DUE.noRoom("21 in one text", fresh::read);
+        DUE.readWithoutRoom(fresh, "21 in one text");
         DUE.same("none of them", fresh.count(3), 0);
         DUE.same("the same one often", Due.read(fresh, "x1-1-1;".repeat(57)), 0);
         DUE.same("counts once", fresh.count(3), 1);
     }
 
     private static void place() {
-        StreetGraph town = new StreetGraph();
+        Graph town = new Graph();
         Due.write(town, "q");
         DUE.same("place before the read", town.place(), -1);
-        DUE.refused("read", IllegalStateException.class, town::read);
-        DUE.same("place behind it", town.place(), 0);
+        DUE.wrongRead(town, "q", 0);
         Due.write(town, "gp1;");
         DUE.same("place until the next read", town.place(), 0);
         town.read();
         DUE.same("place of a right text", town.place(), -1);
         DUE.wrongAt(town, "p1=1-2:9r9;h1@1+1;gp", 20);
         Due.write(town, "p1=1-2:9r9;;");
-        DUE.refused("read", IllegalStateException.class, town::read);
+        DUE.wrongRead(town, "two semicolons", 11);
         town.read();
         DUE.same("place of an empty text", town.place(), -1);
         DUE.wrongAt(town, "gp1;".repeat(99) + "gp1 ", 400);
     }
 
     private static void wrongRows() {
-        StreetGraph town = Due.townOf("p1=1-2:3r4;h1@1+1;s1@1+1;x1-2-3;");
+        Graph town = Due.townOf("p1=1-2:3r4;h1@1+1;s1@1+1;x1-2-3;");
         DUE.wrongAt(town, ";", 0);
         DUE.wrongAt(town, "P1", 0);
         DUE.wrongAt(town, "\0", 0);
@@ -196,10 +192,9 @@ public final class ReadingTest {
      * text had the rest of the row there, and when the tape is full.
      */
     private static void missing(String row) {
-        StreetGraph town = new StreetGraph();
         for (int length = 1; length <= row.length(); length++) {
             String beginning = row.substring(0, length);
-            Due.read(town, row + ";");
+            Graph town = Due.townOf(row + ";");
             DUE.wrongAt(town, beginning, length);
             DUE.wrongAt(town, " ".repeat(400 - length) + beginning, 400);
         }
@@ -208,7 +203,7 @@ public final class ReadingTest {
     }
 
     private static void wrongNumbers() {
-        StreetGraph town = new StreetGraph();
+        Graph town = new Graph();
         numbers(town, "p", 1, 60, "=");
         numbers(town, "p1=", 1, 40, "-");
         numbers(town, "p1=40-", 1, 39, ":");
@@ -247,7 +242,7 @@ public final class ReadingTest {
     }
 
     /** Where a number may be low .. high, with a sign behind it that may follow. */
-    private static void numbers(StreetGraph town, String before, int low, int high, String behind) {
+    private static void numbers(Graph town, String before, int low, int high, String behind) {
         int from = before.length();
         for (int number : new int[] {low, high}) {
             // A right number: the wrong byte is the one behind what follows it.
@@ -283,7 +278,7 @@ public final class ReadingTest {
         DUE.rightAs("  p 1 = 2  > 3 : 45 b 6 [ 7 - 8 : 9 ] [ 0 - 0 : 1 ] ^ 2 ! 3 \"ab\" # 4 ;  ",
                 "p1=2>3:45b6[7-8:9][0-0:1]^2!3\"ab\"#4;");
         DUE.rightAs(" h 1 @ 2 + 0 ; s 3 @ 4 + 5 ; x 1 - 2 - 3 ; g h 1 ; ", "s3@4+5;x1-2-3;");
-        StreetGraph town = new StreetGraph();
+        Graph town = new Graph();
         DUE.wrongAt(town, "p1 2=1", 3);
         DUE.wrongAt(town, "p1=1-2:1 0r9;", 9);
         DUE.wrongAt(town, "p1=1-1 2:9r9;", 5);

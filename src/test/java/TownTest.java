@@ -12,14 +12,14 @@ public final class TownTest {
         DUE.finish();
     }
 
-    private static void look(StreetGraph town, int number, int... want) {
+    private static void look(Graph town, int number, int... want) {
         for (int what = 0; what < want.length; what++) {
             DUE.same("piece(" + number + ", " + what + ")", town.piece(number, what), want[what]);
         }
     }
 
     private static void piece() {
-        StreetGraph town = Due.townOf("p1=3-4:5r6;p2=40>1:9999b99^99!98\"a\"#0;p3=1-2:1t1^7;p4=1-2:1f1!8;",
+        Graph town = Due.townOf("p1=3-4:5r6;p2=40>1:9999b99^99!98\"a\"#0;p3=1-2:1t1^7;p4=1-2:1f1!8;",
                 "p60=2>1:10w10\"zz\"#9;");
         look(town, 1, 3, 4, 5, 0, 0, 0, 0, -1);
         look(town, 2, 40, 1, 9999, 1, 1, 99, 98, 0);
@@ -27,19 +27,19 @@ public final class TownTest {
         look(town, 4, 1, 2, 1, 3, 0, 0, 8, -1);
         look(town, 60, 2, 1, 10, 4, 1, 0, 0, 9);
         for (int number : new int[] {5, 59, 0, -1, 61, Integer.MIN_VALUE, Integer.MAX_VALUE}) {
-            DUE.unknown("piece(" + number + ", 0)", () -> town.piece(number, 0));
-            DUE.unknown("piece(" + number + ", 8)", () -> town.piece(number, 8));
+            DUE.unknown(town, "piece(" + number + ", 0)", () -> town.piece(number, 0));
+            DUE.unknown(town, "piece(" + number + ", 8)", () -> town.piece(number, 8));
         }
         for (int what : new int[] {8, -1, Integer.MIN_VALUE, Integer.MAX_VALUE}) {
-            DUE.outside("piece(1, " + what + ")", () -> town.piece(1, what));
+            DUE.outside(town, "piece(1, " + what + ")", () -> town.piece(1, what));
         }
         Due.read(town, "p2=1-2:3r4;gp1;");
         look(town, 2, 1, 2, 3, 0, 0, 0, 0, -1);
-        DUE.unknown("a piece that is gone", () -> town.piece(1, 0));
+        DUE.unknown(town, "a piece that is gone", () -> town.piece(1, 0));
     }
 
     private static void speed() {
-        StreetGraph town = Due.townOf("p1=1-2:5r50;p2=1-2:5r50[6-9:20][8-12:30][23-23:1];p3=1-2:9r9[0-23:99];");
+        Graph town = Due.townOf("p1=1-2:5r50;p2=1-2:5r50[6-9:20][8-12:30][23-23:1];p3=1-2:9r9[0-23:99];");
         for (int hour = 0; hour < 24; hour++) {
             DUE.same("without hours at " + hour, town.speed(1, hour), 50);
             int want = hour >= 6 && hour <= 9 ? 20 : hour >= 10 && hour <= 12 ? 30 : hour == 23 ? 1 : 50;
@@ -47,16 +47,16 @@ public final class TownTest {
             DUE.same("all day at " + hour, town.speed(3, hour), 99);
         }
         for (int hour : new int[] {-1, 24, Integer.MIN_VALUE, Integer.MAX_VALUE}) {
-            DUE.outside("speed(1, " + hour + ")", () -> town.speed(1, hour));
-            DUE.unknown("speed(4, " + hour + ")", () -> town.speed(4, hour));
+            DUE.outside(town, "speed(1, " + hour + ")", () -> town.speed(1, hour));
+            DUE.unknown(town, "speed(4, " + hour + ")", () -> town.speed(4, hour));
         }
         for (int number : new int[] {0, -1, 4, 61, Integer.MIN_VALUE, Integer.MAX_VALUE}) {
-            DUE.unknown("speed(" + number + ", 0)", () -> town.speed(number, 0));
+            DUE.unknown(town, "speed(" + number + ", 0)", () -> town.speed(number, 0));
         }
     }
 
     private static void name() {
-        StreetGraph town = Due.townOf("p1=1-2:5r5;p2=1-2:5r5\"a\"#0;p3=1-2:5r5\"zyxwvuts\"#1;");
+        Graph town = Due.townOf("p1=1-2:5r5;p2=1-2:5r5\"a\"#0;p3=1-2:5r5\"zyxwvuts\"#1;");
         String[] names = {"", "a", "zyxwvuts"};
         for (int number = 1; number <= 3; number++) {
             String name = names[number - 1];
@@ -66,16 +66,16 @@ public final class TownTest {
             }
             DUE.same("name far behind", town.name(number, Integer.MAX_VALUE), -1);
         }
-        DUE.outside("name(1, -1)", () -> town.name(1, -1));
-        DUE.outside("name(3, lowest)", () -> town.name(3, Integer.MIN_VALUE));
+        DUE.outside(town, "name(1, -1)", () -> town.name(1, -1));
+        DUE.outside(town, "name(3, lowest)", () -> town.name(3, Integer.MIN_VALUE));
         for (int number : new int[] {0, -1, 4, 61, Integer.MIN_VALUE, Integer.MAX_VALUE}) {
-            DUE.unknown("name(" + number + ", 0)", () -> town.name(number, 0));
-            DUE.unknown("name(" + number + ", -1)", () -> town.name(number, -1));
+            DUE.unknown(town, "name(" + number + ", 0)", () -> town.name(number, 0));
+            DUE.unknown(town, "name(" + number + ", -1)", () -> town.name(number, -1));
         }
     }
 
     private static void barredAndClear() {
-        StreetGraph town = Due.townOf("x1-2-3;x40-1-40;x5-5-5;");
+        Graph town = Due.townOf("x1-2-3;x40-1-40;x5-5-5;");
         DUE.same("1-2-3", town.barred(1, 2, 3), true);
         DUE.same("3-2-1", town.barred(3, 2, 1), false);
         DUE.same("1-3-2", town.barred(1, 3, 2), false);
@@ -83,9 +83,9 @@ public final class TownTest {
         DUE.same("5-5-5", town.barred(5, 5, 5), true);
         DUE.same("40-40-40", town.barred(40, 40, 40), false);
         for (int node : new int[] {0, -1, 41, Integer.MIN_VALUE, Integer.MAX_VALUE}) {
-            DUE.outside("barred(" + node + ", 2, 3)", () -> town.barred(node, 2, 3));
-            DUE.outside("barred(1, " + node + ", 3)", () -> town.barred(1, node, 3));
-            DUE.outside("barred(1, 2, " + node + ")", () -> town.barred(1, 2, node));
+            DUE.outside(town, "barred(" + node + ", 2, 3)", () -> town.barred(node, 2, 3));
+            DUE.outside(town, "barred(1, " + node + ", 3)", () -> town.barred(1, node, 3));
+            DUE.outside(town, "barred(1, 2, " + node + ")", () -> town.barred(1, 2, node));
         }
         Due.read(town, "p1=1-2:3r4;gp1;x7-8-9;x1-2-3;");
         DUE.same("turns stay", town.count(3), 4);
@@ -98,7 +98,7 @@ public final class TownTest {
     }
 
     private static void spotAndAlong() {
-        StreetGraph town = Due.townOf("h1@2+3;h30@60+9999;s1@4+5;s2@59+0;");
+        Graph town = Due.townOf("h1@2+3;h30@60+9999;s1@4+5;s2@59+0;");
         DUE.same("spot of h1", town.spot(1, false), 2);
         DUE.same("along of h1", town.along(1, false), 3);
         DUE.same("spot of h30", town.spot(30, false), 60);
@@ -109,34 +109,34 @@ public final class TownTest {
         DUE.same("along of s2", town.along(2, true), 0);
         for (int number : new int[] {0, -1, 29, 31, Integer.MIN_VALUE, Integer.MAX_VALUE}) {
             for (boolean station : new boolean[] {false, true}) {
-                DUE.unknown("spot(" + number + ", " + station + ")", () -> town.spot(number, station));
-                DUE.unknown("along(" + number + ", " + station + ")", () -> town.along(number, station));
+                DUE.unknown(town, "spot(" + number + ", " + station + ")", () -> town.spot(number, station));
+                DUE.unknown(town, "along(" + number + ", " + station + ")", () -> town.along(number, station));
             }
         }
-        DUE.unknown("a station's number for a building", () -> town.spot(2, false));
-        DUE.unknown("a building's number for a station", () -> town.along(30, true));
+        DUE.unknown(town, "a station's number for a building", () -> town.spot(2, false));
+        DUE.unknown(town, "a building's number for a station", () -> town.along(30, true));
         Due.read(town, "gs1;");
-        DUE.unknown("a station that is gone", () -> town.spot(1, true));
+        DUE.unknown(town, "a station that is gone", () -> town.spot(1, true));
         DUE.same("the building of its number", town.spot(1, false), 2);
         Due.read(town, "gh1;");
-        DUE.unknown("a building that is gone", () -> town.along(1, false));
+        DUE.unknown(town, "a building that is gone", () -> town.along(1, false));
     }
 
-    private static void counts(StreetGraph town, int... want) {
+    private static void counts(Graph town, int... want) {
         for (int what = 0; what < want.length; what++) {
             DUE.same("count(" + what + ")", town.count(what), want[what]);
         }
     }
 
     private static void count() {
-        StreetGraph town = Due.townOf("p1=1-2:3r4;p2=2>1:3r4;p60=40-39:3w4;h1@1+1;s1@1+1;s2@1+1;x5-6-7;");
+        Graph town = Due.townOf("p1=1-2:3r4;p2=2>1:3r4;p60=40-39:3w4;h1@1+1;s1@1+1;s2@1+1;x5-6-7;");
         counts(town, 3, 1, 2, 1, 4);
         Due.read(town, "p3=2-3:1f1;x5-6-7;x7-6-5;h30@1+1;h1@2+2;s30@9+9;");
         counts(town, 4, 2, 3, 2, 5);
         Due.read(town, "gp60;gp1;gh1;gs2;");
         counts(town, 2, 1, 2, 2, 3);
         for (int what : new int[] {5, -1, Integer.MIN_VALUE, Integer.MAX_VALUE}) {
-            DUE.outside("count(" + what + ")", () -> town.count(what));
+            DUE.outside(town, "count(" + what + ")", () -> town.count(what));
         }
     }
 }
