@@ -18,7 +18,7 @@ public final class BoundsOfPromises1To4Test {
         DUE.about("What it is", "An object is used for at most 512 calls after it has been made");
         StreetGraph town = new StreetGraph();
         int calls = 0;
-        // Each round is a piece, a wrong text, a check and a print: 2 + 1 + 1 + 1 + 1 + 1 calls.
+        // A round has five calls: a row of two signs is read, looked at and checked.
         for (int round = 0; round < 72; round++) {
             int number = 1 + round % 60;
             String row = "p" + number + "=1-2:" + (100 + round) + "r" + (10 + round % 90) + ";";
