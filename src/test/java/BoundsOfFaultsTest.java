@@ -303,6 +303,7 @@ public final class BoundsOfFaultsTest {
             String want = "rbt".contains(kind) ? "" : "7/2 ";
             due("p1=1-2:9r9;p2=2-3:9" + kind + "9;p3=3-4:9r9;s1@1+0;s2@3+0;", want);
             due("p1=1-2:9r9;p60=2-3:9" + kind + "9;p3=3-4:9r9;s1@1+0;s2@3+0;", want);
+            due("p2=1-2:9r9;p1=2-3:9" + kind + "9;p3=3-4:9r9;s1@2+0;s2@3+0;", want);
             due("p1=1-2:9r9;p2=2-5:9r9;p3=5-3:9" + kind + "9;p4=3-4:9r9;s1@1+0;s2@4+0;", want);
         }
     }

@@ -23,6 +23,7 @@ public final class BoundsOfTextsTest {
     private static void texts() {
         aTextHasAtMost400Bytes();
         rowsEachEndedByASemicolon();
+        noRowEndedTooEarly();
         blanksMayStandBetweenSigns();
         blanksNotWithinNumbersAndNames();
         noOtherByteIsABlank();
@@ -54,6 +55,24 @@ public final class BoundsOfTextsTest {
         DUE.wrong("h1@2+3;;", 7);
         DUE.wrong(";", 0);
         DUE.wrong(";h1@2+3;", 0);
+    }
+
+    /** A semicolon behind what is not yet a row is itself the wrong byte, with or without a blank before it. */
+    private static void noRowEndedTooEarly() {
+        about("ROWS, each ended by a semicolon");
+        String[] beginnings = {"p", "p1", "p1=", "p1=1", "p1=1-", "p1=1>", "p1=1-2", "p1=1-2:", "p1=1-2:3", "p1=1-2:3r",
+            "p1=1-2:3r4[", "p1=1-2:3r4[5", "p1=1-2:3r4[5-", "p1=1-2:3r4[5-6", "p1=1-2:3r4[5-6:", "p1=1-2:3r4[5-6:7",
+            "p1=1-2:3r4[5-6:7][", "p1=1-2:3r4^", "p1=1-2:3r4!", "p1=1-2:3r4^5!", "p1=1-2:3r4\"a\"", "p1=1-2:3r4\"a\"#",
+            "x", "x1", "x1-", "x1-2", "x1-2-", "h", "h1", "h1@", "h1@2", "h1@2+", "s", "s1", "s1@", "s1@2", "s1@2+",
+            "g", "gp", "gh", "gs"};
+        for (String beginning : beginnings) {
+            DUE.wrong(beginning + ";", beginning.length());
+            DUE.wrong(beginning + " ;", beginning.length() + 1);
+            DUE.wrong("gp1;" + beginning + ";gp1;", 4 + beginning.length());
+        }
+        // Within a name a blank is no less wrong than the semicolon.
+        DUE.wrong("p1=1-2:3r4\";", 11);
+        DUE.wrong("p1=1-2:3r4\"a;", 12);
     }
 
     private static void blanksMayStandBetweenSigns() {
