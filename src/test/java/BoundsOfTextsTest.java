@@ -1,3 +1,5 @@
+import java.util.Arrays;
+
 /** The document's Terms, as far as they tell of texts: each method has one of their bounds, both sides of it. */
 public final class BoundsOfTextsTest {
     private static final Due DUE = new Due();
@@ -24,6 +26,7 @@ public final class BoundsOfTextsTest {
         aTextHasAtMost400Bytes();
         rowsEachEndedByASemicolon();
         noRowEndedTooEarly();
+        noPartLeftOut();
         blanksMayStandBetweenSigns();
         blanksNotWithinNumbersAndNames();
         noOtherByteIsABlank();
@@ -73,6 +76,23 @@ public final class BoundsOfTextsTest {
         // Within a name a blank is no less wrong than the semicolon.
         DUE.wrong("p1=1-2:3r4\";", 11);
         DUE.wrong("p1=1-2:3r4\"a;", 12);
+    }
+
+    /** With a blank in the place of one of its parts a row is wrong at the part behind it. */
+    private static void noPartLeftOut() {
+        about("A PIECE: p, its number (1 .. 60), =, a NODE (1 .. 40)");
+        for (String row : new String[] {"p 1 = 1 - 2 : 3 r 4 ;", "p 1 = 1 > 2 : 3 r 4 [ 5 - 6 : 7 ] ^ 8 ! 9 \"a\" # 1 ;",
+            "x 1 - 2 - 3 ;", "h 1 @ 2 + 3 ;", "s 1 @ 2 + 3 ;"}) {
+            String[] parts = row.split(" ");
+            DUE.right(String.join("", parts));
+            for (int i = 0; i < parts.length; i++) {
+                String before = String.join("", Arrays.copyOfRange(parts, 0, i));
+                String behind = String.join("", Arrays.copyOfRange(parts, i + 1, parts.length));
+                DUE.wrong(before + " " + behind, before.length() + 1);
+            }
+        }
+        DUE.wrong("g 1;", 2);
+        DUE.wrong("gp ;", 3);
     }
 
     private static void blanksMayStandBetweenSigns() {
