@@ -91,6 +91,16 @@ public final class BoundsOfTextsTest {
                 DUE.wrong(before + " " + behind, before.length() + 1);
             }
         }
+        // Several parts in a row, up to a sign that is right further on.
+        DUE.wrong("p1=:3r4;", 3);
+        DUE.wrong("p1=1:3r4;", 4);
+        DUE.wrong("p1=1-2r4;", 6);
+        DUE.wrong("p1=1-2:3r4[:7];", 11);
+        DUE.wrong("p1=1-2:3r4[5:7];", 12);
+        DUE.wrong("p1=1-2:3r4[5-6];", 14);
+        DUE.wrong("p1=1-2:3r4[];", 11);
+        DUE.wrong("x-3;", 1);
+        DUE.wrong("h+3;", 1);
         DUE.wrong("g 1;", 2);
         DUE.wrong("gp ;", 3);
     }
