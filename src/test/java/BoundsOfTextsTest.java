@@ -200,6 +200,7 @@ public final class BoundsOfTextsTest {
             DUE.wrong("h1@2+" + number + ";", 6);
             DUE.wrong("p1=1-2:3r4[" + number + "-23:5];", 12);
             DUE.wrong("p1=1-2:3r4[0-" + number + ":5];", 14);
+            DUE.wrong("p1=1-2:3r4[5-" + number + ":5];", 13);
             DUE.wrong("p1=1-2:3r4\"a\"#" + number + ";", 15);
             DUE.wrong("p" + number + "=1-2:3r4;", 1);
             DUE.wrong("p1=1-2:" + number + "r4;", 7);
